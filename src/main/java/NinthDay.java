@@ -39,7 +39,7 @@ public final class NinthDay {
         first = new Year();
         now = new Year();
         aside = new Year();
-        reader = new Reader();
+        reader = new Reader(texts);
         acts = new Acts();
         planner = new Planner();
         share = new Share();
@@ -158,7 +158,7 @@ public final class NinthDay {
         if (!texts.isThere(t)) {
             return refuse(NOTHING);
         }
-        return reader.readYear(texts, t, aside);
+        return reader.readYear(t, aside);
     }
 
     public int year(int t) {
@@ -168,7 +168,7 @@ public final class NinthDay {
         if (!texts.isThere(t)) {
             return refuse(NOTHING);
         }
-        if (reader.readYear(texts, t, aside) != NONE) {
+        if (reader.readYear(t, aside) != NONE) {
             return STATE;
         }
         first.become(aside);
@@ -1021,16 +1021,19 @@ public final class NinthDay {
 
     /** Reads a text as a year, item by item, until its end or the first place that is wrong. */
     private static final class Reader {
-        private Texts texts;
+        private final Texts texts;
         private int t;
         private int size;
         private int place;
         private int wrong;
 
-        int readYear(Texts from, int number, Year into) {
+        Reader(Texts from) {
             texts = from;
+        }
+
+        int readYear(int number, Year into) {
             t = number;
-            size = from.length(number);
+            size = texts.length(number);
             place = 0;
             wrong = NONE;
             into.clear();
@@ -1264,7 +1267,7 @@ public final class NinthDay {
             sums[0] = 0;
             for (int i = 0; i < MOST_DEEDS; i++) {
                 int bit = 1 << i;
-                int price = i < size ? price(i) : 0;
+                int price = i < size ? Kinds.price(kind[i], effort[i], habit[i], pull[i], chain[i], day) : 0;
                 for (int set = 0; set < bit; set++) {
                     sums[bit | set] = sums[set] + price;
                 }
@@ -1293,41 +1296,38 @@ public final class NinthDay {
 
         /** The set that a rule keeps today. */
         int choice(int rule) {
-            int left = will;
+            int[] prices = weighed();
             int set = 0;
             int waiting = open();
-            for (int k = 0; k < size; k++) {
-                int i = foremost(rule, waiting);
-                if (i == NONE) {
-                    return set;
-                }
-                waiting &= ~(1 << i);
-                int price = price(i);
-                if (price <= left) {
-                    left -= price;
-                    set |= 1 << i;
+            for (int k = 0; k < size && waiting != 0; k++) {
+                int bit = foremost(rule, waiting, prices);
+                waiting &= ~bit;
+                if (prices[set | bit] <= will) {
+                    set |= bit;
                 }
             }
             return set;
         }
 
-        private int foremost(int rule, int waiting) {
-            int best = NONE;
+        /** Of those waiting the one (its bit) that a rule takes first. */
+        private int foremost(int rule, int waiting, int[] prices) {
+            int best = 0;
             int least = 0;
             for (int i = 0; i < size; i++) {
-                int rank = rank(rule, i);
-                if ((waiting >> i & 1) == 1 && (best == NONE || rank < least)) {
-                    best = i;
+                int bit = 1 << i;
+                int rank = rank(rule, i, prices);
+                if ((waiting & bit) != 0 && (best == 0 || rank < least)) {
+                    best = bit;
                     least = rank;
                 }
             }
             return best;
         }
 
-        private int rank(int rule, int i) {
+        private int rank(int rule, int i, int[] prices) {
             switch (rule) {
                 case CHEAPEST:
-                    return price(i);
+                    return prices[1 << i];
                 case BY_NUMBER:
                     return i;
                 case LONGEST_CHAIN:
@@ -1345,24 +1345,21 @@ public final class NinthDay {
 
         void pass(int set, int off) {
             for (int i = 0; i < size; i++) {
-                if (!isGiven(i)) {
-                    passDeed(i, (set >> i & 1) == 1, (off >> i & 1) == 1);
+                if (isGiven(i)) {
+                    continue;
+                }
+                if ((set >> i & 1) == 1) {
+                    habit[i] = Kinds.grown(kind[i], habit[i]);
+                    chain[i]++;
+                    times[i]++;
+                } else if ((off >> i & 1) == 1) {
+                    offs--;
+                } else {
+                    habit[i] = Kinds.shrunk(kind[i], habit[i]);
+                    chain[i] = 0;
                 }
             }
             day++;
-        }
-
-        private void passDeed(int i, boolean isKept, boolean isOff) {
-            if (isKept) {
-                habit[i] = Kinds.grown(kind[i], habit[i]);
-                chain[i]++;
-                times[i]++;
-            } else if (isOff) {
-                offs--;
-            } else {
-                habit[i] = Kinds.shrunk(kind[i], habit[i]);
-                chain[i] = 0;
-            }
         }
 
         void follow(int packed) {
