@@ -133,7 +133,16 @@ final class ActsTest {
         c.due("what is refused changes nothing", x.digest(), before);
         c.due("undo(40)", x.undo(40), 0);
         c.due("undo(39)", x.undo(39), 1);
-        c.due("room again", x.take(1), 2);
+        c.due("take, the 40th", x.take(1), 2);
+        x.undo(39);
+        c.due("drop, the 40th", x.drop(0), 0);
+        x.undo(39);
+        c.due("will, the 40th", x.will(6), 5);
+        x.undo(39);
+        c.due("day, the 40th", x.day(0, 0), 0);
+        x.undo(20);
+        c.due("lots, up to the 40th", x.lots(20, 3) >= 0);
+        c.due("acts", x.count(2), 40);
     }
 
     private static void undone(Check c) {
@@ -197,6 +206,19 @@ final class ActsTest {
         x.undo(0);
         c.due("on(2)", x.on(2), 1);
         c.found("on(1)", x, x.on(1), NOTHING);
+        x.undo(0);
+        x.will(33);
+        x.day(6, 1);
+        x.drop(2);
+        c.due("keep(1)", x.keep(1), 3);
+        before = x.digest();
+        x.undo(0);
+        x.drop(1);
+        x.lots(9, 8);
+        c.due("on(1), other acts done", x.on(1), 3);
+        c.due("as it was kept, other acts done", x.digest(), before);
+        c.due("undo(2), as it was kept", x.undo(2), 1);
+        c.due("not given up", x.count(5), 7);
         for (int k : new int[] {-1, 3, LOW, HIGH}) {
             c.due("keep(" + k + ")", x.keep(k), NinthDay.BAD);
             c.due("on(" + k + ")", x.on(k), NinthDay.BAD);

@@ -54,6 +54,8 @@ final class ChancesTest {
         c.due("tempt(4) by 7", d.tempt(4), 2);
         d.drop(0);
         c.due("tempt(4), one given up", d.tempt(4), 1);
+        NinthDay k = Check.of("w020 d100 d100 d100 d100 d200");
+        c.due("tempt(4): the dear one is not kept", k.tempt(4), 2);
         NinthDay n = Check.of("w000 d100 d100");
         c.due("nothing in reach", n.tempt(5), 0);
         for (int v : new int[] {-1, 6, LOW, HIGH}) {
@@ -109,6 +111,9 @@ final class ChancesTest {
         NinthDay f = Check.of("w000 m880 f990");
         // FRENCH costs 1 without a chain, so it slips; SMALL is 9 or 7.
         c.shared("mid(3)", f, f.mid(3), 33, 2);
+        NinthDay g = Check.of("w000 d110 d110 d110 d110 d110");
+        c.shared("mid(6) of five", g, g.mid(6), 5, 1);
+        f.mid(3);
         for (int p : new int[] {-1, 13, LOW, HIGH}) {
             c.due("mid(" + p + ")", f.mid(p), NinthDay.BAD);
         }

@@ -166,7 +166,11 @@ final class FindingOutTest {
         NinthDay w = Check.of("w000 d510");
         Check.fill(w, 0, 3, 4);
         c.told("DEED, SUGAR without pull: alike always", w, w.test(0, 0), 1, 2);
+        Check.fill(w, 0, 1, 3);
+        c.told("FRENCH, SHOES by day 3", w, w.test(0, 0), 3, 1);
         NinthDay p = Check.of("w000 d511");
+        Check.fill(p, 0, 3, 4, 6, 4);
+        c.told("DEED alone", p, p.test(0, 0), 1, 1);
         Check.fill(p, 0, 3, 4);
         c.told("DEED, SUGAR with a pull: day 6", p, p.test(0, 0), 6, 1);
     }

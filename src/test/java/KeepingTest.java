@@ -100,6 +100,10 @@ final class KeepingTest {
         NinthDay z = Check.of("w020 r100 r100");
         c.due("both on days 1 and 2, rain on day 3: one of both", z.plan(3, 0), 5);
         row(c, z, 0, 3, 3, 1);
+        // Were the first one not to slip on day 1, both could be kept on day 2, for 4 and 3.
+        NinthDay s = Check.of("w079 d510 f800");
+        c.due("nothing is off", s.plan(2, 0), 2);
+        row(c, s, 0, 1, 1);
         NinthDay g = Check.of("w409 d100 d100 d100");
         g.drop(1);
         long before = g.digest();
@@ -144,6 +148,17 @@ final class KeepingTest {
         c.told("one given up is not waited for", g, g.till(0), 3, 3);
         NinthDay a = Check.of("w000 d440 d000");
         c.told("at once", a, a.till(3), 0, 0);
+        NinthDay f = Check.of("w000 d440 d000 d110 d220 d330");
+        c.told("five at once", f, f.till(0), 0, 0);
+        Check.write(f, 1, "w000 d440");
+        f.year(1);
+        c.told("behind a year of more deeds", f, f.till(0), 0, 0);
+        NinthDay l = Check.of("w100 s149 d805 r902 s932 r332");
+        c.told("the last of 60 days", l, l.till(2), 60, 236);
+        NinthDay m = Check.of("w080 r912 r101 h845 s414 h948");
+        c.due("one day too late", m.till(2), NinthDay.NONE);
+        m.day(m.rule(2), 0);
+        c.told("and from the next day on", m, m.till(2), 60, 235);
         c.due("till(4)", a.till(4), NinthDay.BAD);
         c.due("till(-1)", a.till(-1), NinthDay.BAD);
         c.due("till(LOW)", a.till(LOW), NinthDay.BAD);
@@ -155,6 +170,14 @@ final class KeepingTest {
         c.told("two by RULE 0, one by RULE 1", x, x.better(1), 0, 2);
         NinthDay y = Check.of("w020 d100 d110 d200");
         c.told("like ones: the first", y, y.better(1), 0, 2);
+        // RULE 1 has all three on the second day, for 3, 4 and 3.
+        NinthDay one = Check.of("w100 d400 r837 r301");
+        c.told("RULE 1", one, one.better(2), 1, 5);
+        NinthDay two = Check.of("w090 d938 d406 s302");
+        c.told("RULE 2", two, two.better(3), 2, 7);
+        // RULE 3 has all three on the second day, for 2, 1 and 0.
+        NinthDay three = Check.of("w030 f640 f834 d222");
+        c.told("RULE 3", three, three.better(2), 3, 5);
         NinthDay z = Check.of("w040 m800 d300 d300");
         int by0 = kept(z, 0, 3);
         int by1 = kept(z, 1, 3);

@@ -109,6 +109,8 @@ final class RowsTest {
         c.found("copy(0, 0, 1, -1, 0)", x, x.copy(0, 0, 1, -1, 0), BEYOND);
         c.found("copy(0, 0, 1, 0, 4)", x, x.copy(0, 0, 1, 0, 4), BEYOND);
         c.found("copy(1, 0, 0, 0, 4)", x, x.copy(1, 0, 0, 0, 4), BEYOND);
+        c.found("copy(0, 1, 0, 0, 5)", x, x.copy(0, 1, 0, 0, 5), BEYOND);
+        c.found("copy(0, 0, 0, 1, 5)", x, x.copy(0, 0, 0, 1, 5), BEYOND);
         c.found("copy(0, 1, 1, 0, HIGH)", x, x.copy(0, 1, 1, 0, HIGH), BEYOND);
         c.found("copy(0, HIGH, 1, HIGH, HIGH)", x, x.copy(0, HIGH, 1, HIGH, HIGH), BEYOND);
         c.found("copy(0, 0, 1, 0, -1)", x, x.copy(0, 0, 1, 0, -1), SIZE);
@@ -121,12 +123,24 @@ final class RowsTest {
         c.due("copy(0, 0, -1, 0, 0)", x.copy(0, 0, -1, 0, 0), NinthDay.BAD);
         row(c, x, 0, 2, 3, 4, 3, 4);
         row(c, x, 1, 2, 3, 9);
+        Check.fill(x, 3, 5, 6, 7, 8);
+        x.row(5, 40);
+        c.due("copy(3, 1, 5, 37, 3): to the last place", x.copy(3, 1, 5, 37, 3), 1);
+        c.due("the place ahead", Check.read(x, 5, 36), 0);
+        c.due("the last place", Check.read(x, 5, 39), 8);
+        c.due("copy(5, 38, 3, 0, 2)", x.copy(5, 38, 3, 0, 2), 1);
+        row(c, x, 3, 7, 8, 7, 8);
+        x.row(4, 40);
+        c.due("copy(5, 0, 4, 0, 40): all", x.copy(5, 0, 4, 0, 40), 1);
+        c.due("the last place", Check.read(x, 4, 39), 8);
     }
 
     private static void means(Check c) {
         NinthDay x = new NinthDay();
         Check.fill(x, 0, 1, 2, 4);
         c.told("mean of 7 by 3", x, x.mean(0), 1, 2);
+        Check.fill(x, 0, 6);
+        c.told("mean of one", x, x.mean(0), 1, 6);
         Check.fill(x, 0, -1, -2, -4);
         c.told("mean of -7 by 3", x, x.mean(0), 1, -2);
         Check.fill(x, 0, HIGH, HIGH, HIGH, HIGH);

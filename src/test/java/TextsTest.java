@@ -109,6 +109,13 @@ final class TextsTest {
         NinthDay x = new NinthDay();
         Check.write(x, 3, "                 w123              r123 s456               ");
         c.due("fault of the longest", x.fault(3), NinthDay.NONE);
+        x.text(3, 60);
+        c.due("fault of 60 blanks", x.fault(3), 60);
+        x.put(3, 59, 'w');
+        c.due("fault of an early end at 60", x.fault(3), 60);
+        Check.write(x, 0, "w409d999");
+        Check.write(x, 0, "w409d");
+        c.due("nothing is left of a longer text", x.fault(0), 5);
         c.found("fault(2)", x, x.fault(2), NOTHING);
         c.due("fault(4)", x.fault(4), NinthDay.BAD);
         c.due("fault(-1)", x.fault(-1), NinthDay.BAD);
@@ -139,6 +146,7 @@ final class TextsTest {
         x.day(1, 0);
         x.drop(2);
         x.keep(1);
+        x.better(60);
         Check.write(x, 1, "w007 f123");
         c.due("put leaves the year", x.count(0), 5);
         c.due("year(1)", x.year(1), 1);
@@ -149,6 +157,7 @@ final class TextsTest {
         c.due("kept years go", x.count(10), 0);
         c.found("on(1)", x, x.on(1), NOTHING);
         int[] fresh = {5, 1, 2, 3, 1, 0, 0, 0};
+        c.due("anew, undo(0)", x.undo(0), 0);
         for (int what = 0; what < 8; what++) {
             c.due("anew, deed(0, " + what + ")", Check.trait(x, 0, what), fresh[what]);
         }
