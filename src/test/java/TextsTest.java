@@ -176,6 +176,8 @@ final class TextsTest {
         c.due("year(-1)", x.year(-1), NinthDay.BAD);
         c.due("fault(2)", x.fault(2), 2);
         c.due("nor does a fault", x.digest(), before);
+        x.till(0);
         c.due("year(0) again", x.year(0), 5);
+        c.due("nothing given up", x.count(5), 31);
     }
 }
