@@ -39,6 +39,9 @@ final class FindingOutTest {
         c.told("sure(4)", x, x.sure(4), 1, 2);
         c.told("ask(4): 2 tells both apart", x, x.ask(4), 2, 1);
         c.told("sure(0)", x, x.sure(0), 0, 15);
+        NinthDay all = Check.of("w000 d100 d100 d100 d100 d100");
+        fits(c, all, 5, 1, 31);
+        c.told("sure(5): all five", all, all.sure(5), 31, 0);
         NinthDay z = Check.of("w000 d000 d000 d000 d000 d000");
         fits(c, z, 0, 32, 0);
         c.told("ask(0): all alike", z, z.ask(0), 0, 16);
