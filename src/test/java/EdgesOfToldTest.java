@@ -78,7 +78,8 @@ final class EdgesOfToldTest {
     private static void count(Edges e) {
         e.edge("43 count: the DAY is 1 without DEEDS", "count(1) = 1");
         e.edge("43 count: all that a new object has not", "count(0) = 0", "count(2) = 0", "count(3) = 0",
-                "count(4) = 0", "count(5) = 0", "count(6) = 0", "count(7) = 0", "count(8) = 0", "count(9) = 0", "count(10) = 0");
+                "count(4) = 0", "count(5) = 0", "count(6) = 0", "count(7) = 0", "count(8) = 0", "count(9) = 0",
+                "count(10) = 0");
         e.edge("43 count: 0 DEEDS, given up or not", "year w000 d000 d000", "drop(0) = 1", "count(0) = 2");
         e.edge("43 count: the greatest of 0, 3, 4, 5, 6, 7", "year w409 r090 h090 r090 h090 r090", "count(0) = 5",
                 "count(3) = 40", "count(4) = 9", "count(5) = 31", "count(6) = 45", "count(7) = 5");
@@ -148,8 +149,8 @@ final class EdgesOfToldTest {
                 "lots(21, 1) = BAD");
         e.edge("ANSWERS: BAD ahead of FINDING", "row(6, -1) = BAD", "lay(6, 0, 0) = BAD", "at(6, 0) = BAD",
                 "tear(6) = BAD", "copy(6, 0, 0, 0, -1) = BAD", "mean(6) = BAD", "text(4, -1) = BAD",
-                "put(4, 0, 0) = BAD", "fault(4) = BAD", "year(4) = BAD", "mark(0, 1) = BAD", "on(3) = BAD", "habits(0, 0) = BAD",
-                "kinds(0, 0) = BAD", "test(0, 0) = BAD");
+                "put(4, 0, 0) = BAD", "fault(4) = BAD", "year(4) = BAD", "mark(0, 1) = BAD", "on(3) = BAD",
+                "habits(0, 0) = BAD", "kinds(0, 0) = BAD", "test(0, 0) = BAD");
         e.edge("ANSWERS: STATE ahead of FINDING", "sure(1) = STATE", "ask(1) = STATE");
         e.edge("ANSWERS: STATE behind NOTHING, of a YEAR", "text 0 x", "year(1) = NOTHING", "year(0) = STATE");
     }
