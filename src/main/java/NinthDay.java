@@ -209,7 +209,7 @@ public final class NinthDay {
     // ---- 2 acts
 
     public int day(int set, int off) {
-        if (!isSet(set) || !isSet(off) || (set & off) != 0 || ((set | off) & now.given) != 0) {
+        if (!isSet(set) || !isSet(off) || (set & off) != 0 || ((set | off) & now.givenUp) != 0) {
             return BAD;
         }
         if (now.size == 0) {
@@ -229,28 +229,28 @@ public final class NinthDay {
         if (!isDeed(i)) {
             return BAD;
         }
-        if (now.isGiven(i)) {
+        if (now.isGivenUp(i)) {
             return STATE;
         }
         if (!acts.haveRoom(1)) {
             return FULL;
         }
         act(Acts.pack(Acts.DROP, i, 0));
-        return Integer.bitCount(now.open());
+        return Integer.bitCount(now.notGivenUp());
     }
 
     public int take(int i) {
         if (!isDeed(i)) {
             return BAD;
         }
-        if (!now.isGiven(i)) {
+        if (!now.isGivenUp(i)) {
             return STATE;
         }
         if (!acts.haveRoom(1)) {
             return FULL;
         }
         act(Acts.pack(Acts.TAKE, i, 0));
-        return Integer.bitCount(now.open());
+        return Integer.bitCount(now.notGivenUp());
     }
 
     public int will(int v) {
@@ -315,7 +315,7 @@ public final class NinthDay {
             return STATE;
         }
         int[] sums = now.weighed();
-        int open = now.open();
+        int open = now.notGivenUp();
         int best = 0;
         for (int set = 1; set < ALL_SETS; set++) {
             if ((set & ~open) == 0 && sums[set] <= now.will && isMore(set, best, sums)) {
@@ -450,7 +450,7 @@ public final class NinthDay {
             return refused;
         }
         int[] sums = now.weighed();
-        int inEach = now.open();
+        int inEach = now.notGivenUp();
         int inSome = 0;
         for (int set = 0; set < ALL_SETS; set++) {
             if (isFit(sums, set, v)) {
@@ -458,7 +458,7 @@ public final class NinthDay {
                 inSome |= set;
             }
         }
-        told = now.open() & ~inSome;
+        told = now.notGivenUp() & ~inSome;
         return inEach;
     }
 
@@ -472,7 +472,7 @@ public final class NinthDay {
         for (int i = 0; i < now.size; i++) {
             int bit = 1 << i;
             int greater = Math.max(fitting(v, bit, bit), fitting(v, bit, 0));
-            if (!now.isGiven(i) && greater < least) {
+            if (!now.isGivenUp(i) && greater < least) {
                 best = i;
                 least = greater;
             }
@@ -543,7 +543,7 @@ public final class NinthDay {
         if (now.size == 0) {
             return STATE;
         }
-        int open = now.open();
+        int open = now.notGivenUp();
         int best = NONE;
         int most = -1;
         for (int set = 0; set < ALL_SETS; set++) {
@@ -565,7 +565,7 @@ public final class NinthDay {
         if (now.size == 0) {
             return STATE;
         }
-        return turns(now.weighed(), now.open(), now.will, n, true);
+        return turns(now.weighed(), now.notGivenUp(), now.will, n, true);
     }
 
     // ---- 8 chances, lots
@@ -599,7 +599,7 @@ public final class NinthDay {
         int set = now.choice(CHEAPEST);
         long upper = 0;
         for (int i = 0; i < now.size; i++) {
-            if (!now.isGiven(i)) {
+            if (!now.isGivenUp(i)) {
                 int slips = (set >> i & 1) == 1 ? p : TWELVE;
                 upper += slips * Kinds.shrunk(now.kind[i], now.habit[i]);
                 upper += (TWELVE - slips) * Kinds.grown(now.kind[i], now.habit[i]);
@@ -658,7 +658,7 @@ public final class NinthDay {
             case 4:
                 return now.offs;
             case 5:
-                return now.open();
+                return now.notGivenUp();
             case 6:
                 return now.openHabits();
             case 7:
@@ -810,7 +810,7 @@ public final class NinthDay {
     }
 
     private boolean isFit(int[] sums, int set, int v) {
-        return (set & ~now.open()) == 0 && sums[set] == v;
+        return (set & ~now.notGivenUp()) == 0 && sums[set] == v;
     }
 
     /** How many sets cost v that are, within a mask, as told. */
@@ -1154,13 +1154,13 @@ public final class NinthDay {
         private final int[] habit;
         private final int[] pull;
         private final int[] chain;
-        private final int[] times;
+        private final int[] timesKept;
         private final int[] sums;
         private int size;
         private int day;
         private int will;
         private int offs;
-        private int given;
+        private int givenUp;
 
         Year() {
             kind = new int[MOST_DEEDS];
@@ -1168,7 +1168,7 @@ public final class NinthDay {
             habit = new int[MOST_DEEDS];
             pull = new int[MOST_DEEDS];
             chain = new int[MOST_DEEDS];
-            times = new int[MOST_DEEDS];
+            timesKept = new int[MOST_DEEDS];
             sums = new int[ALL_SETS];
             day = 1;
         }
@@ -1178,7 +1178,7 @@ public final class NinthDay {
             day = 1;
             will = 0;
             offs = 0;
-            given = 0;
+            givenUp = 0;
         }
 
         void addDeed(int itsKind, int itsEffort, int itsHabit, int itsPull) {
@@ -1190,7 +1190,7 @@ public final class NinthDay {
             habit[size] = itsHabit;
             pull[size] = itsPull;
             chain[size] = 0;
-            times[size] = 0;
+            timesKept[size] = 0;
             size++;
         }
 
@@ -1200,12 +1200,12 @@ public final class NinthDay {
             System.arraycopy(other.habit, 0, habit, 0, MOST_DEEDS);
             System.arraycopy(other.pull, 0, pull, 0, MOST_DEEDS);
             System.arraycopy(other.chain, 0, chain, 0, MOST_DEEDS);
-            System.arraycopy(other.times, 0, times, 0, MOST_DEEDS);
+            System.arraycopy(other.timesKept, 0, timesKept, 0, MOST_DEEDS);
             size = other.size;
             day = other.day;
             will = other.will;
             offs = other.offs;
-            given = other.given;
+            givenUp = other.givenUp;
         }
 
         int trait(int i, int what) {
@@ -1223,25 +1223,24 @@ public final class NinthDay {
                 case 5:
                     return chain[i];
                 case 6:
-                    return isGiven(i) ? 1 : 0;
+                    return isGivenUp(i) ? 1 : 0;
                 default:
-                    return times[i];
+                    return timesKept[i];
             }
         }
 
-        boolean isGiven(int i) {
-            return (given >> i & 1) == 1;
+        boolean isGivenUp(int i) {
+            return (givenUp >> i & 1) == 1;
         }
 
-        /** The deeds not given up. */
-        int open() {
-            return ((1 << size) - 1) & ~given;
+        int notGivenUp() {
+            return ((1 << size) - 1) & ~givenUp;
         }
 
         int openHabits() {
             int sum = 0;
             for (int i = 0; i < size; i++) {
-                sum += isGiven(i) ? 0 : habit[i];
+                sum += isGivenUp(i) ? 0 : habit[i];
             }
             return sum;
         }
@@ -1287,7 +1286,7 @@ public final class NinthDay {
 
         boolean goesByItself() {
             for (int i = 0; i < size; i++) {
-                if (!isGiven(i) && habit[i] < effort[i]) {
+                if (!isGivenUp(i) && habit[i] < effort[i]) {
                     return false;
                 }
             }
@@ -1298,7 +1297,7 @@ public final class NinthDay {
         int choice(int rule) {
             int[] prices = weighed();
             int set = 0;
-            int waiting = open();
+            int waiting = notGivenUp();
             for (int k = 0; k < size && waiting != 0; k++) {
                 int bit = foremost(rule, waiting, prices);
                 waiting &= ~bit;
@@ -1345,13 +1344,13 @@ public final class NinthDay {
 
         void pass(int set, int off) {
             for (int i = 0; i < size; i++) {
-                if (isGiven(i)) {
+                if (isGivenUp(i)) {
                     continue;
                 }
                 if ((set >> i & 1) == 1) {
                     habit[i] = Kinds.grown(kind[i], habit[i]);
                     chain[i]++;
-                    times[i]++;
+                    timesKept[i]++;
                 } else if ((off >> i & 1) == 1) {
                     offs--;
                 } else {
@@ -1369,10 +1368,10 @@ public final class NinthDay {
                     pass(a, Acts.secondOf(packed));
                     break;
                 case Acts.DROP:
-                    given |= 1 << a;
+                    givenUp |= 1 << a;
                     break;
                 case Acts.TAKE:
-                    given &= ~(1 << a);
+                    givenUp &= ~(1 << a);
                     if (a < MOST_DEEDS) {
                         chain[a] = 0;
                     }
@@ -1473,22 +1472,22 @@ public final class NinthDay {
 
         int best(Year now, int n) {
             most = -1;
-            seek(now, 0, n, 0);
+            seek(this, now, 0, n, 0);
             return most;
         }
 
-        private void seek(Year from, int depth, int n, int sum) {
+        private static void seek(Planner p, Year from, int depth, int n, int sum) {
             if (depth >= n || depth >= MOST_PLAN) {
-                note(n, sum);
+                p.note(n, sum);
                 return;
             }
-            int open = from.open();
+            int open = from.notGivenUp();
             int[] sums = from.weighed();
             int hoped = sum + (n - depth) * Integer.bitCount(open);
-            for (int set = 0; set < ALL_SETS && hoped > most; set++) {
+            for (int set = 0; set < ALL_SETS && hoped > p.most; set++) {
                 if ((set & ~open) == 0 && sums[set] <= from.will) {
-                    tried[depth] = set;
-                    seek(behind(from, depth, n, set), depth + 1, n, sum + Integer.bitCount(set));
+                    p.tried[depth] = set;
+                    seek(p, p.behind(from, depth, n, set), depth + 1, n, sum + Integer.bitCount(set));
                 }
             }
         }

@@ -63,6 +63,8 @@ final class LanguageTest {
             long digest()
             """;
     private static final Set<String> CONSTANTS = Set.of("BAD", "FULL", "FINDING", "STATE", "SPENT", "NONE");
+    private static final Set<String> LIBRARY = Set.of("Math.min(", "Math.max(", "Integer.bitCount(", "Arrays.fill(",
+            "System.arraycopy(");
     private static final String[] RULED_OUT = {"throw", "throws", "try", "catch", "finally", "synchronized", "assert",
         "volatile", "transient", "native", "var", "yield", "protected", "package", "Object", "System\\.out", "random",
         "Thread", "hashCode", "toString", "Exact", "->", "::", "@\\w+", "Map", "HashSet", "Optional", "stream",
@@ -162,6 +164,11 @@ final class LanguageTest {
         while (imports.find()) {
             c.due("import " + imports.group(1), imports.group(1).equals("java.util.Arrays"));
         }
+        Matcher library = Pattern.compile("\\b([A-Z][a-z]\\w+)\\.([a-z]\\w*)\\(").matcher(bare);
+        while (library.find()) {
+            boolean isOwn = Pattern.compile("class " + library.group(1) + "\\b").matcher(bare).find();
+            c.due(library.group() + " is of the library", isOwn || LIBRARY.contains(library.group(0)));
+        }
         // Objects and arrays are made in constructors alone, so that no call needs room.
         Matcher methods = Pattern.compile("\n( +)((?:\\w+(?:\\[\\])? )*)(\\w+)\\([^()]*\\) \\{\n(.*?)\n\\1\\}",
                 Pattern.DOTALL).matcher(bare);
@@ -171,6 +178,8 @@ final class LanguageTest {
             String name = methods.group(3);
             long lines = methods.group(4).lines().count() + 2;
             c.due(name + " is short", lines <= 60);
+            boolean callsItself = Pattern.compile("(?<![.\\w])" + name + "\\(").matcher(methods.group(4)).find();
+            c.due(name + " may call itself", !callsItself || methods.group(2).startsWith("private static "));
             boolean isConstructor = Character.isUpperCase(name.charAt(0));
             c.due(name + " makes nothing", isConstructor || !methods.group(4).contains("new "));
         }
