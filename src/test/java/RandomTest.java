@@ -164,7 +164,8 @@ final class RandomTest {
         int deeds = 1 + random.nextInt(random.nextInt(8) == 0 ? 6 : 5);
         for (int k = 0; k < deeds; k++) {
             s.append(blanks()).append("drsmhf".charAt(random.nextInt(6)));
-            s.append(random.nextInt(10)).append(random.nextInt(random.nextBoolean() ? 10 : 4)).append(random.nextInt(10));
+            s.append(random.nextInt(10)).append(random.nextInt(random.nextBoolean() ? 10 : 4));
+            s.append(random.nextInt(10));
         }
         s.append(blanks());
         if (random.nextInt(4) == 0) {
